@@ -209,7 +209,7 @@ public final class SectorWalk {
         if (moveX == 0 && moveY == 0) {
             return STOOD;
         }
-        latest.find(map, now, moveX, moveY);
+        latest.fill(map, now, moveX, moveY);
         if (latest.firstStopper != NONE || !isPlaceOfWalker(now.x + moveX, now.y + moveY)) {
             return STOPPED;
         }
@@ -463,8 +463,8 @@ public final class SectorWalk {
             firstStopper = NONE;
         }
 
-        void find(Plan plan, Stand eye, int moveX, int moveY) {
-            forget();
+        /** Fills the crossings of one STEP in; those of the STEP before are to be forgotten first. */
+        void fill(Plan plan, Stand eye, int moveX, int moveY) {
             for (int number = 0; number < plan.wallCount; number++) {
                 if (isCrossed(plan, number, eye, moveX, moveY)) {
                     insert(number);

@@ -10,12 +10,15 @@ public final class BuildTest {
         due.end();
     }
 
-    /** Builds two walls without a vertex of both, told by their ends. */
+    /** Builds two walls without a vertex of both, told by their ends, each either way round. */
     private static int apart(int... ends) {
         int[][] vertices = {{ends[0], ends[1]}, {ends[2], ends[3]}, {ends[4], ends[5]}, {ends[6], ends[7]}};
         int answer = two(vertices, new int[][] {{0, 1, 0, -1}, {2, 3, 0, -1}});
-        int turned = two(vertices, new int[][] {{3, 2, 0, -1}, {0, 1, 0, 0}});
-        return answer == turned ? answer : -99;
+        int[][][] others = {
+            {{0, 1, 0, -1}, {3, 2, 0, -1}}, {{1, 0, 0, -1}, {2, 3, 0, -1}}, {{1, 0, 0, -1}, {3, 2, 0, -1}},
+            {{2, 3, 0, -1}, {0, 1, 0, 0}}, {{3, 2, 0, -1}, {1, 0, 0, 0}},
+        };
+        return agree(vertices, others, answer);
     }
 
     /** Builds two walls from a vertex of both to two others, with each wall either way round. */
@@ -25,12 +28,16 @@ public final class BuildTest {
         int[][][] others = {
             {{0, 1, 0, -1}, {2, 0, 0, -1}}, {{1, 0, 0, -1}, {0, 2, 0, -1}}, {{1, 0, 0, -1}, {2, 0, 0, -1}},
         };
+        return agree(vertices, others, first);
+    }
+
+    private static int agree(int[][] vertices, int[][][] others, int answer) {
         for (int[][] walls : others) {
-            if (two(vertices, walls) != first) {
+            if (two(vertices, walls) != answer) {
                 return -99;
             }
         }
-        return first;
+        return answer;
     }
 
     private static int two(int[][] vertices, int[][] walls) {
@@ -43,6 +50,12 @@ public final class BuildTest {
         due.is("a flat cross of the longest", 1, apart(-2000, -2000, 2000, 2000, -2000, -1999, 2000, 1999));
         due.is("nearly alike, apart", -1, apart(-2000, -2000, 2000, 1999, -2000, -1999, 2000, 2000));
         due.is("an end inside the other", 1, apart(0, 0, 10, 0, 5, 0, 5, 9));
+        due.is("an end inside the other, from below", 1, apart(0, 0, 10, 0, 5, 0, 5, -9));
+        due.is("an end inside the other, from far", 1, apart(0, 0, 10, 0, 5, -9, 5, 0));
+        due.is("an end inside the shortest", 1, apart(0, 0, 2, 0, 1, 0, 1, 1));
+        due.is("an end inside a slant", 1, apart(0, 0, 4, 6, 2, 3, 0, 6));
+        due.is("an end the least bit off a slant", -1, apart(0, 0, 5, 8, 3, 5, 0, 8));
+        due.is("an end the least bit off, below", -1, apart(0, 0, 5, 8, 2, 3, 8, 0));
         due.is("an end just short of the other", -1, apart(0, 0, 10, 0, 5, 1, 5, 9));
         due.is("the line goes through, the wall does not", -1, apart(0, 0, 10, 0, 11, -5, 11, 5));
         due.is("boxes meet, walls do not", -1, apart(0, 0, 10, 10, 6, 5, 9, 0));
@@ -54,12 +67,16 @@ public final class BuildTest {
         due.is("on one steep line, overlapping", 1, apart(3, 0, 3, 10, 3, 9, 3, 20));
         due.is("on one slant, apart", -1, apart(0, 0, 4, 8, 5, 10, 7, 14));
         due.is("on one slant, overlapping", 1, apart(0, 0, 5, 10, 4, 8, 7, 14));
+        due.is("the least back along itself", 1, joined(0, 0, 1, 0, 2, 0));
+        due.is("the least straight on", -1, joined(0, 0, 1, 0, -1, 0));
         due.is("a corner", -1, joined(0, 0, 10, 0, 0, 10));
         due.is("a sharp corner", -1, joined(-2000, -2000, 2000, 2000, 2000, 1999));
         due.is("straight on", -1, joined(0, 0, 10, 0, -10, 0));
         due.is("straight on by a slant", -1, joined(0, 0, 3, 6, -1, -2));
         due.is("back along itself", 1, joined(0, 0, 10, 0, 20, 0));
         due.is("back along a shorter one", 1, joined(0, 0, 6, 9, 2, 3));
+        int[][] least = {{0, 0}, {0, 1}};
+        due.is("alike, the least", 1, two(least, new int[][] {{0, 1, 0, -1}, {0, 1, 0, -1}}));
         int[][] ends = {{0, 0}, {10, 3}};
         due.is("alike", 1, two(ends, new int[][] {{0, 1, 0, -1}, {0, 1, 0, -1}}));
         due.is("there and back", 1, two(ends, new int[][] {{0, 1, 0, -1}, {1, 0, 0, -1}}));

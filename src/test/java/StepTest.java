@@ -15,6 +15,7 @@ public final class StepTest {
         backless(due);
         sides(due);
         reach(due);
+        smallest(due);
         edge(due);
         due.end();
     }
@@ -34,18 +35,27 @@ public final class StepTest {
             int c = cosine(a);
             int s = cosine((a + 48) % 64);
             SectorWalk x = Maps.field(0, 0, a);
-            due.is("ahead at " + a, 1, x.step(64, 0, 0));
-            due.is("ahead at " + a + ": x", Math.floorDiv(c * 64, 256), x.walker(0));
-            due.is("ahead at " + a + ": y", Math.floorDiv(s * 64, 256), x.walker(1));
-            x.start(0, 0, a, 0);
-            due.is("aside at " + a, 1, x.step(0, 64, 0));
-            due.is("aside at " + a + ": x", Math.floorDiv(s * 64, 256), x.walker(0));
-            due.is("aside at " + a + ": y", Math.floorDiv(-c * 64, 256), x.walker(1));
-            x.start(0, 0, a, 0);
-            due.is("both at " + a, 1, x.step(-31, 47, 0));
-            due.is("both at " + a + ": x", Math.floorDiv(c * -31 + s * 47, 256), x.walker(0));
-            due.is("both at " + a + ": y", Math.floorDiv(s * -31 - c * 47, 256), x.walker(1));
+            SectorWalk y = Maps.field(0, 0, a);
+            SectorWalk z = Maps.field(0, 0, a);
+            for (int n = 1; n <= 64; n++) {
+                String when = " by " + n + " at " + a;
+                goes(due, "ahead" + when, x, n, 0, new int[] {c * n, s * n});
+                goes(due, "aside" + when, y, 0, n, new int[] {s * n, -c * n});
+                int m = 2 * n - 65;
+                goes(due, "both" + when, z, -n, m, new int[] {c * -n + s * m, s * -n - c * m});
+            }
+            due.is("angle " + a + " stays", a, x.walker(2));
         }
+    }
+
+    /** One step from (0, 0), and the 256-fold of its M. */
+    private static void goes(Due due, String when, SectorWalk x, int ahead, int aside, int[] m) {
+        x.play(0);
+        int dx = Math.floorDiv(m[0], 256);
+        int dy = Math.floorDiv(m[1], 256);
+        due.is(when, dx == 0 && dy == 0 ? 0 : 1, x.step(ahead, aside, 0));
+        due.is(when + ": x", dx, x.walker(0));
+        due.is(when + ": y", dy, x.walker(1));
     }
 
     private static void turns(Due due) {
@@ -182,6 +192,25 @@ public final class StepTest {
         x.start(10, -120, 16, 1);
         due.is("along the wall", 1, x.step(64, 0, 0));
         due.is("along the wall: crossed", -1, x.crossed(0));
+    }
+
+    /** The least that P and Q can be, either way round. */
+    private static void smallest(Due due) {
+        int[][] sectors = {{0, 128}, {0, 128}};
+        for (int turned = 0; turned < 2; turned++) {
+            int[][] wall = {{turned, 1 - turned, turned, 1 - turned}};
+            SectorWalk x = Maps.built(new int[][] {{1, -1}, {1, 0}}, sectors, wall);
+            x.start(0, 0, 0, 1);
+            due.is("P 1, Q 1", 1, x.step(1, 0, 0));
+            due.is("P 1, Q 1: crossed", 0, x.crossed(0));
+            due.is("P 1, Q 1: sector", 0, x.walker(3));
+            x.start(0, 0, 0, 1);
+            due.is("P 1, Q 2", 1, x.step(2, 0, 0));
+            due.is("P 1, Q 2: crossed", 0, x.crossed(0));
+            x.start(-1, 0, 0, 1);
+            due.is("P 2, Q 1", 1, x.step(1, 0, 0));
+            due.is("P 2, Q 1: crossed", -1, x.crossed(0));
+        }
     }
 
     private static void edge(Due due) {
